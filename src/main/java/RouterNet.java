@@ -356,20 +356,24 @@ public final class RouterNet {
     }
 
     private int cross(Piece mover, Link link) {
-        int most = mover.bytes <= link.width ? mover.bytes : link.width - link.width % SPLIT_STEP;
-        int added = (mover.bytes - 1) / most;
+        // No link is narrower than SPLIT_STEP: the max only lets it be seen here that the divisor is not 0.
+        int most = Math.max(SPLIT_STEP, link.width - link.width % SPLIT_STEP);
+        int added = mover.bytes <= link.width ? 0 : (mover.bytes - 1) / most;
         if (made + added > MOST_PIECES) {
             return FULL;
         }
         mover.router = link.otherEnd(mover.router);
         mover.life--;
-        split(mover, most);
+        if (added > 0) {
+            split(mover, most, added);
+        }
         return mover.state;
     }
 
-    private void split(Piece mover, int most) {
+    private void split(Piece mover, int most, int added) {
         int stop = mover.start + mover.bytes;
-        for (int start = mover.start + most; start < stop; start += most) {
+        for (int i = 1; i <= added; i++) {
+            int start = mover.start + i * most;
             addPiece(mover.part(start, Math.min(most, stop - start)));
         }
         mover.bytes = most;

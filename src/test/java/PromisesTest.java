@@ -788,6 +788,7 @@ public final class PromisesTest {
         due("arrived(1, 8, 64)", x.arrived(1, 8, 64), false);
         x.send(1, 1, 64, false);
         x.go(33);
+        due("its first byte", x.arrived(2, 1, 0), true);
         due("its last byte", x.arrived(2, 1, 63), true);
         due("behind its last byte", x.arrived(2, 1, 64), false);
         due("of the other packet", x.arrived(1, 1, 63), false);
