@@ -770,7 +770,8 @@ public final class PromisesTest {
         x.go(1);
         x.go(5);
         x.go(32);
-        for (int i = 0; i < 500; i++) {
+        // Not all 500 bytes: the document speaks of 512 calls on an object.
+        for (int i = 0; i < 500; i += i == 200 ? 200 : 1) {
             boolean in = i >= 64 && i < 80 || i >= 496;
             due("arrived(1, 1, " + i + ")", x.arrived(1, 1, i), in);
         }
