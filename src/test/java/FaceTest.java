@@ -26,7 +26,13 @@ public final class FaceTest {
         + "REFUSED=-1, TOO_WIDE=4, UNREACHABLE=2}";
     private static final String[] FORBIDDEN = {"throw", "throws", "try", "catch", "synchronized", "assert", "package",
         "protected", "Object", "Random", "Thread", "hashCode", "toString", "instanceof", "volatile", "native"};
+    private static final Set<String> LIBRARY = Set.of("Arrays.copyOf", "Arrays.copyOfRange", "Arrays.fill", "Math.abs",
+        "Math.max", "Math.min", "Long.bitCount", "Integer.bitCount", "System.arraycopy");
+    private static final Set<String> CONSTANT_TYPES = Set.of("int", "long", "boolean", "char", "String", "int[]", "long[]",
+        "char[]", "byte[]");
     private static final int LONGEST_METHOD = 60;
+    private static final int MOST_CLASSES = 12;
+    private static final int MOST_FIELDS = 20;
 
     private static int wrong;
 
@@ -83,15 +89,37 @@ public final class FaceTest {
             if (!Modifier.isPrivate(modifiers)) {
                 due(field + " is a constant", Modifier.toString(modifiers), "public static final");
                 constants.put(field.getName(), field.getInt(null));
-            } else if (Modifier.isStatic(modifiers)) {
-                due(field + " is final", Modifier.isFinal(modifiers), true);
             }
         }
         due("constants", constants.toString(), CONSTANTS);
     }
 
-    private static void checkWords(String source) {
-        String code = source.replaceAll("(?s)/\\*.*?\\*/", "").replaceAll("//[^\n]*", "");
+    private static void checkClasses() {
+        List<Class<?>> classes = new ArrayList<>(List.of(RouterNet.class.getDeclaredClasses()));
+        classes.add(RouterNet.class);
+        due("at most " + MOST_CLASSES + " classes", classes.size() <= MOST_CLASSES, true);
+        for (Class<?> type : classes) {
+            int fields = 0;
+            for (Field field : type.getDeclaredFields()) {
+                if (Modifier.isStatic(field.getModifiers())) {
+                    due(field + " is final", Modifier.isFinal(field.getModifiers()), true);
+                    due(field + " is a constant", CONSTANT_TYPES.contains(field.getType().getSimpleName()), true);
+                } else {
+                    fields++;
+                }
+            }
+            due(type + " has at most " + MOST_FIELDS + " fields", fields <= MOST_FIELDS, true);
+        }
+    }
+
+    private static void checkLibrary(String code) {
+        Matcher calls = Pattern.compile("\\b(Arrays|Math|Long|Integer|System|String|StringBuilder|List)\\.(\\w+)").matcher(code);
+        while (calls.find()) {
+            due("the library's " + calls.group(), LIBRARY.contains(calls.group()), true);
+        }
+    }
+
+    private static void checkWords(String code) {
         for (String word : FORBIDDEN) {
             due("the word " + word, Pattern.compile("\\b" + word + "\\b").matcher(code).find(), false);
         }
@@ -121,9 +149,12 @@ public final class FaceTest {
 
     public static void main(String[] args) throws IOException, IllegalAccessException {
         String source = Files.readString(SOURCE);
+        String code = source.replaceAll("(?s)/\\*.*?\\*/", "").replaceAll("//[^\n]*", "");
         checkMembers();
         checkConstants();
-        checkWords(source);
+        checkClasses();
+        checkLibrary(code);
+        checkWords(code);
         checkLengths(source);
         System.out.println(wrong == 0 ? "the face is as due" : wrong + " findings");
         if (wrong != 0) {
