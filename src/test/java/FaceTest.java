@@ -26,6 +26,7 @@ public final class FaceTest {
         + "REFUSED=-1, TOO_WIDE=4, UNREACHABLE=2}";
     private static final String[] FORBIDDEN = {"throw", "throws", "try", "catch", "synchronized", "assert", "package",
         "protected", "Object", "Random", "Thread", "hashCode", "toString", "instanceof", "volatile", "native"};
+    // Not all that rule 4 allows: a function that is new here is looked up there first.
     private static final Set<String> LIBRARY = Set.of("Arrays.copyOf", "Arrays.copyOfRange", "Arrays.fill", "Math.abs",
         "Math.max", "Math.min", "Long.bitCount", "Integer.bitCount", "System.arraycopy");
     private static final Set<String> CONSTANT_TYPES = Set.of("int", "long", "boolean", "char", "String", "int[]", "long[]",
